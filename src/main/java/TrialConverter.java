@@ -244,7 +244,8 @@ public final class TrialConverter {
 
     public int decidedWrong() {
         int wrong = 0;
-        for (int row = 0; row < state.kept.size; row++) {
+        for (int back = 0; back < state.kept.size; back++) {
+            int row = state.kept.rowOf(back);
             wrong += state.setup.countWrongBits(state.kept.inputs[row], state.kept.bits[row]);
         }
         return wrong;
