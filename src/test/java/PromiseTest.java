@@ -16,6 +16,9 @@ public final class PromiseTest {
     private static final String NOISY = "comparator 0 0; comparator 2 1; weight 8 8 1; weight 4 4 0; weight 2 2 1;"
             + " weight 1 1 1; seed 5;";
 
+    /** Its codes are 1, 2, 3 and 3. */
+    private static final String AHEAD = "comparator 1 0; weight 2 2 0; weight 1 1 0;";
+
     public static void main(String[] args) {
         setup();
         theTable();
@@ -68,6 +71,7 @@ public final class PromiseTest {
         p24To26CodesAndMissing();
         p27To28Widths();
         p29To31StepsAndErrors();
+        p29To31Ends();
         p32Absorbs();
         p33InputFor();
         p34RisingFrom();
@@ -162,6 +166,9 @@ public final class PromiseTest {
         error("   ", -2, 3);
         error("Comparator 0 0;", -2, 0);
         error(" comparators 0 0;", -2, 1);
+        error("comparatora 0 0;", -2, 0);
+        error("comparatorz 0 0;", -2, 0);
+        error(w, -2, 0);
         error("compara", -2, 0);
         error("comparator;", -2, 10);
         error("comparator - - 1 0;", -2, 13);
@@ -192,6 +199,8 @@ public final class PromiseTest {
         error(c + w + "seed 1;" + w, -2, 35);
         error(c + w + "seed 1;seed 1;", -2, 35);
         error(c + w + "\u00ff", -2, 28);
+        error(c + w + "\u0000", -2, 28);
+        error(c + w + "seed 1;" + (char) 0xa0, -2, 35);
         error(c + c + c + c, -4, 45);
         error(c + c + c + "comparator 99 99 99", -4, 45);
         error(c + c + c + "comparatorx", -2, 45);
@@ -212,6 +221,7 @@ public final class PromiseTest {
         due("3: weights", x.weight(0, 0) + x.weight(1, 1), 1024);
         due("3: the third comparator", x.weight(0, 2), 2);
         due("3: seed", x.count(3), 65535);
+        due("3: seed 0", Checks.loaded(PLAIN + "seed 0;").count(3), 0);
         due("3: -0", Checks.loadText(x, "comparator - 0 0; weight 1 1 0;"), 1);
         String full = "comparator 0 0;weight 1 1 0;" + " ".repeat(372);
         due("3: 400 bytes", Checks.loadText(x, full), 1);
@@ -394,6 +404,10 @@ public final class PromiseTest {
         due("11: weight 0", x.weight(0, 3), 30);
         x.undo();
         due("11: one change", x.count(7), 5 + 3 + 2 + 1 + 6);
+        TrialConverter full = Checks.loaded("comparator 0 2;" + "weight 1 2 0;".repeat(10) + "seed 7;");
+        due("11: ten weights", full.calibrateAll(1) >= 0, true);
+        // The weight k is measured by 2 conversions with 9 - k weights each.
+        due("11: ten weights draw", full.count(3), noiseAfter(7, 90));
         due("11: none can", Checks.loaded(PLAIN).calibrateAll(1), 0);
         Checks.dueThrow("11: 0", ARGUMENT, () -> x.calibrateAll(0));
         Checks.dueThrow("11: 17", ARGUMENT, () -> x.calibrateAll(17));
@@ -443,6 +457,7 @@ public final class PromiseTest {
         // Noises -1, 0, 1: the input 1 gives 0, 1, 1.
         due("14: two thirds as float", y.average(1, 3), 2f / 3f);
         due("14: 16 at most", y.average(9999, 16), 1f);
+        due("14: the input 0, once", Checks.loaded(PLAIN).average(0, 1), 0f);
         Checks.dueThrow("14: input -1", ARGUMENT, () -> x.average(-1, 1));
         Checks.dueThrow("14: input 10000", ARGUMENT, () -> x.average(10000, 1));
         Checks.dueThrow("14: 0 conversions", ARGUMENT, () -> x.average(0, 0));
@@ -457,6 +472,7 @@ public final class PromiseTest {
         due("15: noise stays", x.count(3), 5);
         due("15: nothing kept", x.count(4) + x.count(5), 0);
         due("15: greatest", x.quiet(9999), 15);
+        due("15: least", x.quiet(0), 2);
         Checks.dueThrow("15: -1", ARGUMENT, () -> x.quiet(-1));
         Checks.dueThrow("15: 10000", ARGUMENT, () -> x.quiet(10000));
         due("15: no change", x.undo(), 0);
@@ -470,6 +486,7 @@ public final class PromiseTest {
         due("16: nothing kept", x.count(4) + x.count(5), 0);
         due("16: as the next ones", x.average(1, 2), 2f);
         due("16: all noise", x.spread(5, 16), 0);
+        due("16: the input 0", Checks.loaded(PLAIN).spread(0, 2), 0);
         Checks.dueThrow("16: input -1", ARGUMENT, () -> x.spread(-1, 1));
         Checks.dueThrow("16: input 10000", ARGUMENT, () -> x.spread(10000, 1));
         Checks.dueThrow("16: 0 conversions", ARGUMENT, () -> x.spread(0, 0));
@@ -544,6 +561,14 @@ public final class PromiseTest {
         Checks.loadText(x, PLAIN);
         x.convert(3);
         due("19: of the new converter alone", x.decidedWrong(), 0);
+        x.setTable(0, 3);
+        Checks.loadText(x, "comparator 9 0; weight 4 4 0;");
+        due("19: none kept behind a load", x.decidedWrong(), 0);
+        x.average(0, 3);
+        due("19: each of them", x.decidedWrong(), 3);
+        Checks.loadText(x, "comparator 0 0; weight 4 4 0;");
+        x.convert(0);
+        due("19: none of those behind a load", x.decidedWrong(), 0);
     }
 
     private static void p20Seen() {
@@ -593,6 +618,11 @@ public final class PromiseTest {
         due("22: the first of several again", x.mostSeen(), 6);
         x.forget(9);
         Checks.dueThrow("22: all forgotten", ELEMENT, x::mostSeen);
+        x.convert(6);
+        x.average(1, 5);
+        x.undo();
+        due("22: not one that was undone", x.mostSeen(), 6);
+        due("23: not one that was undone", x.forget(2), 1);
     }
 
     private static void p23Forget() {
@@ -640,6 +670,11 @@ public final class PromiseTest {
         TrialConverter y = Checks.loaded("comparator 50 0; weight 512 9 0; weight 512 9 0;");
         due("24: one code", y.codes(), 1);
         due("25: none below the least", y.missing(), 0);
+        y.setTable(0, 0);
+        y.setTable(1, 0);
+        due("24: 0 alone", y.codes(), 1);
+        due("25: 0 alone", y.missing(), 0);
+        Checks.dueThrow("33: 0 alone", ELEMENT, () -> y.inputFor(1));
         TrialConverter z = Checks.loaded("comparator 0 0;" + "weight 512 512 0;".repeat(10));
         for (int k = 0; k < 10; k++) {
             z.setTable(k, 1023);
@@ -664,6 +699,8 @@ public final class PromiseTest {
         TrialConverter y = Checks.loaded("comparator 50 0; weight 512 9 0; weight 512 9 0;");
         due("27: all inputs", y.width(1024), 19);
         due("28: the least is not 0", y.widest(), 1024);
+        // 1, 2, 3, 3.
+        due("28: the greatest", Checks.loaded(AHEAD).widest(), 3);
     }
 
     private static void p29To31StepsAndErrors() {
@@ -678,7 +715,7 @@ public final class PromiseTest {
         due("31: 8 / 8", x.meanError(), 1.0);
         x.setTable(1, 0);
         // 0, 1, 0, 1, 2, 3, 2, 3.
-        due("29: as one code is no step back", x.stepsBack(), 2);
+        due("29: two", x.stepsBack(), 2);
         due("30: below", x.worstInput(), 6);
         due("31: 16 / 8", x.meanError(), 2.0);
         TrialConverter y = Checks.loaded(SPARE);
@@ -691,11 +728,37 @@ public final class PromiseTest {
         due("30: in the midst", z.worstInput(), 6);
     }
 
+    private static void p29To31Ends() {
+        TrialConverter ahead = Checks.loaded(AHEAD);
+        ahead.setTable(0, 0);
+        // 1, 0, 1, 1.
+        due("29: at 1, and not as one code", ahead.stepsBack(), 1);
+        due("34: at 1", ahead.risingFrom(), 1);
+        due("31: 5 / 4", ahead.meanError(), 1.25);
+        TrialConverter behind = Checks.loaded("comparator -1 0; weight 2 2 0; weight 1 1 0;");
+        behind.setTable(0, 0);
+        // 0, 0, 1, 0.
+        due("29: at the range", behind.stepsBack(), 1);
+        due("34: at the range", behind.risingFrom(), 3);
+        due("30: at the range", behind.worstInput(), 3);
+        due("31: 5 / 4 again", behind.meanError(), 1.25);
+        TrialConverter flat = Checks.loaded("comparator 50 0; weight 512 9 0; weight 512 9 0;");
+        due("29: one code", flat.stepsBack(), 0);
+        due("30: at 0", flat.worstInput(), 0);
+        due("31: 19285 / 19", flat.meanError(), 1015.0);
+        TrialConverter pair = Checks.loaded("comparator 0 0; weight 1 1 0; weight 1 1 0;");
+        pair.setTable(0, 9);
+        due("30: at 1", pair.worstInput(), 1);
+    }
+
     private static void p32Absorbs() {
         TrialConverter x = Checks.loaded(PLAIN);
         due("32: nothing", x.absorbs(0, false), 0);
         due("32: nothing less", x.absorbs(0, true), 0);
         due("32: the last one", x.absorbs(2, false), 0);
+        TrialConverter one = new TrialConverter();
+        due("32: by the input 0 alone", one.absorbs(0, false), 0);
+        due("32: by the range alone", one.absorbs(0, true), 0);
         TrialConverter y = Checks.loaded("comparator 0 0; weight 4 4 0; weight 3 3 0; weight 2 2 0; weight 1 1 0;");
         // The weights behind it make 6 at most; with 4 less the input 7 has to be made by them.
         due("32: redundant, less", y.absorbs(0, true), 3);
@@ -848,7 +911,10 @@ public final class PromiseTest {
         due("37: load", x.undo(), 0);
         due("37: the converter before load", x.count(1) * 100 + x.count(0), 101);
         Checks.loadText(x, "comparator 0 3; weight 4 5 0; weight 3 3 0; weight 2 2 0; weight 1 1 0; weight 1 1 0;");
-        x.average(6, 5);
+        x.average(0, 1);
+        for (int input = 1; input < 11; input++) {
+            x.average(input, 2);
+        }
         x.save(0);
         String start = held(x);
         x.setTable(0, 50);
@@ -869,8 +935,10 @@ public final class PromiseTest {
         undone(x, "calibrateAll", start);
         x.forget(1);
         undone(x, "forget of none", start);
-        x.forget(1000);
+        x.forget(3);
         undone(x, "forget", start);
+        x.forget(1000);
+        undone(x, "forget of all", start);
         x.restore(0);
         undone(x, "restore", start);
         Checks.loadText(x, PLAIN);
@@ -878,7 +946,7 @@ public final class PromiseTest {
     }
 
     private static void undone(TrialConverter x, String change, String start) {
-        due("37: left behind " + change, x.undo(), 2);
+        due("37: left behind " + change, x.undo(), 7);
         due("37: undone " + change, held(x), start);
     }
 
@@ -930,6 +998,7 @@ public final class PromiseTest {
         due("38: sum", x.save(0), 7);
         x.setTable(0, 100);
         due("38: sum then", x.save(1), 103);
+        due("38: sum of ten", Checks.loaded("comparator 0 0;" + "weight 3 2 0;".repeat(10)).save(0), 30);
         due("38: slot 0 has its own", x.restore(0), 7);
         due("38: in place of what was there", x.save(1), 7);
         x.setTable(0, 100);
