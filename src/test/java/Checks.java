@@ -4,6 +4,16 @@ final class Checks {
         Object answer();
     }
 
+    /** A call on any converter. */
+    interface Asked {
+        Object answer(TrialConverter x);
+    }
+
+    /** Makes a converter the same way each time. */
+    interface Recipe {
+        TrialConverter make();
+    }
+
     static int wrong = 0;
 
     private Checks() {
@@ -20,6 +30,22 @@ final class Checks {
     static void dueThrow(String call, Class<?> want, Call made) {
         Object got = outcome(made);
         due(call, got, "throws " + want.getName());
+    }
+
+    /** A call that is refused throws the very exception that is due, and changes nothing. */
+    static void refused(String call, Class<?> want, Recipe recipe, Asked made) {
+        TrialConverter x = recipe.make();
+        dueThrow(call, want, () -> made.answer(x));
+        changesNothing(call, recipe, made);
+    }
+
+    /** A twin that the call was not made on answers all the same. */
+    static void changesNothing(String call, Recipe recipe, Asked made) {
+        for (Asked look : Whole.LOOKS) {
+            TrialConverter asked = recipe.make();
+            outcome(() -> made.answer(asked));
+            due(call + " changes nothing", look.answer(asked), look.answer(recipe.make()));
+        }
     }
 
     static Object outcome(Call made) {
@@ -51,6 +77,20 @@ final class Checks {
             throw new IllegalStateException("a test's own text is wrong: " + text);
         }
         return x;
+    }
+
+    /** A text that is read without an error. */
+    static TrialConverter reads(String text, int weights) {
+        TrialConverter x = new TrialConverter();
+        due("'" + text + "'", loadText(x, text), weights);
+        due("position of '" + text + "'", x.errorPosition(), -1);
+        return x;
+    }
+
+    static void error(String text, int code, int position) {
+        TrialConverter x = new TrialConverter();
+        due("'" + text + "'", loadText(x, text), code);
+        due("position of '" + text + "'", x.errorPosition(), position);
     }
 
     static int four(String text, int at) {
