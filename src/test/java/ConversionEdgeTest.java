@@ -133,6 +133,7 @@ public final class ConversionEdgeTest {
         s2Level();
         s2QuietNoise();
         s2LatestTwenty();
+        s2NoisesOfTheLatestTwenty();
         s2KeptByConvertAndAverage();
     }
 
@@ -225,6 +226,30 @@ public final class ConversionEdgeTest {
         x.undo();
         due("2: 19 again", x.count(4), 19);
         due("2: the latest of 19", x.conversion(0, 0), 118);
+    }
+
+    /** The rows of those kept are used again, and an undoing has to bring back each noise in them. */
+    private static void s2NoisesOfTheLatestTwenty() {
+        TrialConverter x = Checks.loaded("comparator 0 30;" + "weight 9 30 0;".repeat(3) + "seed 65535;");
+        x.average(30, 16);
+        x.average(60, 4);
+        String before = noises(x);
+        x.average(90, 16);
+        x.average(90, 16);
+        due("2: other noises", noises(x).equals(before), false);
+        x.undo();
+        x.undo();
+        due("2: the noises of all 20", noises(x), before);
+    }
+
+    private static String noises(TrialConverter x) {
+        StringBuilder all = new StringBuilder();
+        for (int back = 0; back < 20; back++) {
+            for (int k = 0; k < 3; k++) {
+                all.append(x.trial(back, k, 1)).append(' ');
+            }
+        }
+        return all.toString();
     }
 
     private static void s2KeptByConvertAndAverage() {
@@ -335,6 +360,9 @@ public final class ConversionEdgeTest {
         TrialConverter x = recipe.make();
         due("16: 1 alone", x.spread(4, 1), 0);
         due("16: 9999", x.spread(9999, 16), 0);
+        due("16: 0", Checks.loaded(PLAIN).spread(0, 16), 0);
+        // Noises -1, 0 and 1, -1: the input 0 has the bits 0, 0 and then 1, 0.
+        due("16: 0 with noise", Checks.loaded("comparator 0 1;weight 1 1 0;weight 3 1 0;seed 5;").spread(0, 2), 1);
         for (int n : new int[] {0, 17, -1, Integer.MIN_VALUE, Integer.MAX_VALUE}) {
             Checks.dueThrow("16: conversions " + n, ARGUMENT, () -> x.spread(5, n));
         }

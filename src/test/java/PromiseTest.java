@@ -910,64 +910,37 @@ public final class PromiseTest {
         TrialConverter x = Checks.loaded(NOISY);
         due("37: load", x.undo(), 0);
         due("37: the converter before load", x.count(1) * 100 + x.count(0), 101);
-        Checks.loadText(x, "comparator 0 3; weight 4 5 0; weight 3 3 0; weight 2 2 0; weight 1 1 0; weight 1 1 0;");
+        undone("setTable", y -> y.setTable(0, 50));
+        undone("setTable of the same", y -> y.setTable(0, 4));
+        undone("setNoise", y -> y.setNoise(77));
+        undone("resetTable of the same", TrialConverter::resetTable);
+        undone("convert", y -> y.convert(3));
+        undone("average", y -> y.average(3, 16));
+        undone("calibrate", y -> y.calibrate(0, 3));
+        undone("calibrateAll", y -> y.calibrateAll(3));
+        undone("forget of none", y -> y.forget(1));
+        undone("forget", y -> y.forget(3));
+        undone("forget of all", y -> y.forget(1000));
+        undone("restore", y -> y.restore(0));
+        undone("load", y -> Checks.loadText(y, PLAIN));
+    }
+
+    private static TrialConverter manyKept() {
+        TrialConverter x = Checks.loaded(
+                "comparator 0 3; weight 4 5 0; weight 3 3 0; weight 2 2 0; weight 1 1 0; weight 1 1 0;");
         x.average(0, 1);
         for (int input = 1; input < 11; input++) {
             x.average(input, 2);
         }
         x.save(0);
-        String start = held(x);
-        x.setTable(0, 50);
-        undone(x, "setTable", start);
-        x.setTable(0, 4);
-        undone(x, "setTable of the same", start);
-        x.setNoise(77);
-        undone(x, "setNoise", start);
-        x.resetTable();
-        undone(x, "resetTable of the same", start);
-        x.convert(3);
-        undone(x, "convert", start);
-        x.average(3, 16);
-        undone(x, "average", start);
-        x.calibrate(0, 3);
-        undone(x, "calibrate", start);
-        x.calibrateAll(3);
-        undone(x, "calibrateAll", start);
-        x.forget(1);
-        undone(x, "forget of none", start);
-        x.forget(3);
-        undone(x, "forget", start);
-        x.forget(1000);
-        undone(x, "forget of all", start);
-        x.restore(0);
-        undone(x, "restore", start);
-        Checks.loadText(x, PLAIN);
-        undone(x, "load", start);
+        return x;
     }
 
-    private static void undone(TrialConverter x, String change, String start) {
+    private static void undone(String change, Checks.Asked call) {
+        TrialConverter x = manyKept();
+        call.answer(x);
         due("37: left behind " + change, x.undo(), 7);
-        due("37: undone " + change, held(x), start);
-    }
-
-    private static String held(TrialConverter x) {
-        StringBuilder all = new StringBuilder();
-        for (int what = 0; what <= 8; what++) {
-            all.append(x.count(what)).append(' ');
-        }
-        for (int k = 0; k < x.count(1); k++) {
-            all.append(x.weight(k, 3)).append(' ');
-        }
-        for (int back = 0; back < x.count(4); back++) {
-            all.append(x.conversion(back, 0)).append(' ').append(x.conversion(back, 1)).append(' ');
-            for (int k = 0; k < x.count(1); k++) {
-                all.append(x.trial(back, k, 0)).append(' ').append(x.trial(back, k, 1)).append(' ');
-            }
-        }
-        for (int place = 0; place < x.count(5); place++) {
-            all.append(x.seenAt(place)).append(' ').append(x.seen(x.seenAt(place))).append(' ');
-        }
-        return all.toString();
+        due("37: undone " + change, Whole.numbers(x), Whole.numbers(manyKept()));
     }
 
     /** What throws, asks or saves, and a text with an error, is no change. */

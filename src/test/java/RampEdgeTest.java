@@ -57,6 +57,8 @@ public final class RampEdgeTest {
         s4MissingBetween();
         s4StepBack();
         s4Error();
+        s4RampAsItIs();
+        s4Calibrated();
     }
 
     private static void s4FromZeroToTheRange() {
@@ -137,6 +139,55 @@ public final class RampEdgeTest {
         // 0, 1, 1, 2, 6, 7, 7, 8: the errors are 0, 0, -1, -1, 2, 2, 1, 1.
         TrialConverter later = plain(6, 1, 1);
         due("4: -1 at 2, 2 at 4", later.worstInput() + " " + later.meanError(), "4 1.0");
+    }
+
+    /** A ramp is that of the table as it is, also if another one was looked at before. */
+    private static void s4RampAsItIs() {
+        TrialConverter x = plain();
+        due("4: at first", rampOf(x), "8 0 0 0 0 0.0");
+        x.setTable(0, 6);
+        // 0, 1, 2, 3, 6, 7, 8, 9.
+        due("4: greater codes", rampOf(x), "8 2 0 4 0 1.0");
+        x.setTable(0, 0);
+        // 0, 1, 2, 3, 0, 1, 2, 3.
+        due("4: less codes", rampOf(x), "4 0 1 4 4 2.0");
+        Checks.dueThrow("4: not the greatest from before", ELEMENT, () -> x.inputFor(4));
+        due("4: width 0 from before", x.width(6), 0);
+        x.undo();
+        due("4: undone", rampOf(x), "8 2 0 4 0 1.0");
+        x.resetTable();
+        due("4: reset", rampOf(x), "8 0 0 0 0 0.0");
+        x.undo();
+        due("4: undone again", rampOf(x), "8 2 0 4 0 1.0");
+        x.save(0);
+        x.undo();
+        due("4: as at first", rampOf(x), "8 0 0 0 0 0.0");
+        x.restore(0);
+        due("4: restored", rampOf(x), "8 2 0 4 0 1.0");
+        Checks.loadText(x, C + "weight 1 1 0;");
+        due("4: loaded", rampOf(x), "2 0 0 0 0 0.0");
+        x.undo();
+        due("4: the load is undone", rampOf(x), "8 2 0 4 0 1.0");
+        x.setNoise(9);
+        x.convert(3);
+        x.forget(9);
+        due("4: other changes leave it", rampOf(x), "8 2 0 4 0 1.0");
+    }
+
+    private static String rampOf(TrialConverter x) {
+        return x.codes() + " " + x.missing() + " " + x.stepsBack() + " " + x.worstInput() + " " + x.risingFrom() + " "
+                + x.meanError();
+    }
+
+    private static void s4Calibrated() {
+        TrialConverter x = Checks.loaded(C + "weight 4 5 0;weight 3 3 0;weight 2 2 0;weight 1 1 0;weight 1 1 0;");
+        due("4: 4 and 4", x.width(4), 2);
+        x.calibrate(0, 1);
+        due("4: calibrated", x.width(4), 1);
+        x.undo();
+        due("4: undone", x.width(4), 2);
+        x.calibrateAll(1);
+        due("4: all calibrated", x.width(4), 1);
     }
 
     // ---- promises 24 to 28

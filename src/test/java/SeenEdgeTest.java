@@ -17,6 +17,7 @@ public final class SeenEdgeTest {
         p20AnyNumber();
         p21Ends();
         p22FirstOfSeveral();
+        p22Undone();
         p22None();
         p23Times();
         p23ThousandTimes();
@@ -151,6 +152,24 @@ public final class SeenEdgeTest {
         y.forget(2);
         y.average(3, 2);
         due("22: 3 has a later place now", y.mostSeen(), 6);
+    }
+
+    /** A code that was seen more often, but is undone, is not there any more; nor is one where 16 were seen. */
+    private static void p22Undone() {
+        TrialConverter x = Checks.loaded(PLAIN);
+        x.convert(6);
+        x.average(1, 5);
+        due("22: 1 five times", x.mostSeen(), 1);
+        x.undo();
+        due("22: 6 once", x.mostSeen(), 6);
+        due("23: and 1 is none to forget", x.forget(2), 1);
+        TrialConverter y = Checks.loaded(C + "weight 16 16 0;weight 8 8 0;weight 4 4 0;weight 2 2 0;weight 1 1 0;");
+        for (int n = 1; n <= 32; n++) {
+            y.convert(32 - n);
+            due("22: the first of " + n, y.mostSeen(), 31);
+            due("21: the last of " + n, y.seenAt(n - 1), 32 - n);
+            due("23: none of " + n, y.forget(1), 0);
+        }
     }
 
     private static void p22None() {

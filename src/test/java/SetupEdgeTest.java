@@ -145,6 +145,7 @@ public final class SetupEdgeTest {
         s5SpacesInFrontOfEveryToken();
         s5OnlySpacesAreBlank();
         s5WordIsTheLongest();
+        s5EachLetterOfAWord();
         s5NumberIsTheLongest();
         s5MinusSign();
         s5SeedIsOptional();
@@ -208,6 +209,22 @@ public final class SetupEdgeTest {
         error(C + "wei ght 1 1 0;", SYNTAX, 15);
         due("5: digits end a word", reads("comparator7 0;weight5 1 0;seed9;", 1).count(3), 9);
         error(C + "weight 1 1 0seed;", SYNTAX, 27);
+    }
+
+    /** One letter is another one, or lacks. */
+    private static void s5EachLetterOfAWord() {
+        String[] ahead = {"", C, C + W};
+        String[] words = {"comparator", "weight", "seed"};
+        String[] behind = {" 0 0;" + W, " 1 1 0;", " 1;"};
+        for (int n = 0; n < words.length; n++) {
+            for (int at = 0; at < words[n].length(); at++) {
+                String start = ahead[n] + words[n].substring(0, at);
+                String end = words[n].substring(at + 1) + behind[n];
+                error(start + "x" + end, SYNTAX, ahead[n].length());
+                error(start + end, SYNTAX, ahead[n].length());
+                error(start + (char) (words[n].charAt(at) - 32) + end, SYNTAX, ahead[n].length());
+            }
+        }
     }
 
     private static void s5NumberIsTheLongest() {
