@@ -375,6 +375,10 @@ public final class ConversionEdgeTest {
             y.setTable(k, 0);
         }
         due("16: of the code 0 alone", y.spread(1, 16), 0);
+        for (int k = 0; k < 10; k++) {
+            y.setTable(k, 1023);
+        }
+        due("16: of the greatest code alone", y.spread(9999, 16), 0);
     }
 
     /** The codes that convert would have from now on, and so again, for none of them is made. */
