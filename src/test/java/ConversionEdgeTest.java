@@ -38,6 +38,7 @@ public final class ConversionEdgeTest {
         s1LeastAndGreatestNoise();
         s1NoDrawWithoutAmplitude();
         s1OneDrawForEachTrial();
+        s1TenDraws();
     }
 
     private static TrialConverter single(int amplitude, int state) {
@@ -110,6 +111,21 @@ public final class ConversionEdgeTest {
         due("1: the noise is 0", x.trial(0, 0, 1), 0);
     }
 
+    /** Each of ten weights has its own noise, also in the conversion before the latest one. */
+    private static void s1TenDraws() {
+        TrialConverter x = Checks.loaded("comparator 0 30;" + "weight 1 1 0;".repeat(10) + "seed 65535;");
+        x.convert(500);
+        x.convert(0);
+        int state = 65535;
+        for (int back = 1; back >= 0; back--) {
+            for (int k = 0; k < 10; k++) {
+                state = (int) ((state * 20077L + 12345L) % 65536L);
+                due("1: noise " + k + " of " + back, x.trial(back, k, 1), state / 16 % 61 - 30);
+            }
+        }
+        due("1: twenty draws", x.count(3), state);
+    }
+
     private static void s1OneDrawForEachTrial() {
         TrialConverter x = Checks.loaded("comparator 0 30;comparator 0 0;comparator 0 1;weight 1 1 0;weight 1 1 1;"
                 + "weight 1 1 2;weight 1 1 0;seed 65535;");
@@ -129,6 +145,7 @@ public final class ConversionEdgeTest {
     private static void sectionTwo() {
         s2AtLeastTheThreshold();
         s2WithOffset();
+        s2OffsetOfItsComparator();
         s2WithNoise();
         s2Level();
         s2QuietNoise();
@@ -159,6 +176,18 @@ public final class ConversionEdgeTest {
         due("2: 0 - 1", below.convert(0), 0);
         due("2: 1 - 1", below.convert(1), 0);
         due("2: 2 - 1", below.convert(2), 1);
+    }
+
+    /** Each weight is decided by its own comparator, the third one too. */
+    private static void s2OffsetOfItsComparator() {
+        int[] offsets = {3, -5, 40};
+        for (int c = 0; c < 3; c++) {
+            TrialConverter x = Checks.loaded("comparator 3 0;comparator -5 0;comparator 40 0;weight 100 100 " + c + ";");
+            due("2: just below, comparator " + c, x.convert(99 - offsets[c]), 0);
+            due("2: just at it, comparator " + c, x.convert(100 - offsets[c]), 100);
+            due("2: quiet below, comparator " + c, x.quiet(99 - offsets[c]), 0);
+            due("2: quiet at it, comparator " + c, x.quiet(100 - offsets[c]), 100);
+        }
     }
 
     private static void s2WithNoise() {
@@ -234,12 +263,25 @@ public final class ConversionEdgeTest {
         x.average(30, 16);
         x.average(60, 4);
         String before = noises(x);
+        String numbers = numbersOfTwenty(x);
         x.average(90, 16);
         x.average(90, 16);
         due("2: other noises", noises(x).equals(before), false);
         x.undo();
         x.undo();
         due("2: the noises of all 20", noises(x), before);
+        due("2: the inputs, codes and bits of all 20", numbersOfTwenty(x), numbers);
+    }
+
+    /** The input, the code and the bits of each of the latest 20. */
+    private static String numbersOfTwenty(TrialConverter x) {
+        StringBuilder all = new StringBuilder();
+        for (int back = 0; back < 20; back++) {
+            for (int what = 0; what <= 2; what++) {
+                all.append(x.conversion(back, what)).append(' ');
+            }
+        }
+        return all.toString();
     }
 
     private static String noises(TrialConverter x) {

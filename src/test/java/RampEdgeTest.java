@@ -49,6 +49,15 @@ public final class RampEdgeTest {
         return x;
     }
 
+    /** All its codes are the greatest one that there can be. */
+    private static TrialConverter greatestAlone() {
+        TrialConverter x = Checks.loaded("comparator 50 0;" + "weight 5 5 0;".repeat(10));
+        for (int k = 0; k < 10; k++) {
+            x.setTable(k, 1023);
+        }
+        return x;
+    }
+
     // ---- section 4
 
     private static void sectionFour() {
@@ -209,6 +218,10 @@ public final class RampEdgeTest {
             Checks.dueThrow("26: none, " + place, ELEMENT, () -> plain().missingAt(place));
             Checks.dueThrow("26: none of one code, " + place, ELEMENT, () -> Checks.loaded(FLAT).missingAt(place));
         }
+        TrialConverter top = greatestAlone();
+        due("24: the greatest code alone", top.codes(), 1);
+        due("25: none of the greatest alone", top.missing(), 0);
+        Checks.dueThrow("26: none of the greatest alone", ELEMENT, () -> top.missingAt(0));
         TrialConverter x = plain(5, 2, 1);
         due("26: the only one", x.missing() * 10 + x.missingAt(0), 14);
         Checks.dueThrow("26: no second", ELEMENT, () -> x.missingAt(1));
@@ -233,6 +246,8 @@ public final class RampEdgeTest {
         due("28: the least of four", plain(9, 1, 0).widest(), 0);
         due("28: the greatest code", Checks.loaded(AHEAD).widest(), 3);
         due("28: the only code", Checks.loaded(FLAT).widest(), 1024);
+        due("28: the greatest code alone", greatestAlone().widest(), 10230);
+        due("27: it has all inputs", greatestAlone().width(10230), 51);
         due("28: of the longest", longest().widest(), 0);
         due("28: 0 alone", plain(0, 0, 0).widest(), 0);
         due("27: 0 alone", plain(0, 0, 0).width(0), 8);
@@ -400,6 +415,7 @@ public final class RampEdgeTest {
         due("33: the longest", longest().inputFor(10230), 5120);
         due("33: the longest, one below", longest().inputFor(9208), 5120);
         due("33: the longest, the code before", longest().inputFor(9207), 4608);
+        due("33: the greatest code alone", greatestAlone().inputFor(10230), 0);
         Checks.dueThrow("33: above the longest", ELEMENT, () -> longest().inputFor(10231));
         due("33: 0 alone", plain(0, 0, 0).inputFor(0), 0);
         Checks.dueThrow("33: above 0 alone", ELEMENT, () -> plain(0, 0, 0).inputFor(1));

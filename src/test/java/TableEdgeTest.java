@@ -242,6 +242,13 @@ public final class TableEdgeTest {
         x.undo();
         x.undo();
         due("8: behind undo", x.setTable(0, 1), 0);
+        TrialConverter y = Checks.loaded(C + "weight 5 6 0;".repeat(10));
+        for (int k = 0; k < 10; k++) {
+            due("8: told, weight " + k, y.setTable(k, 100 + k), 5);
+            y.undo();
+            due("8: told behind undo, weight " + k, y.setTable(k, 100 + k), 5);
+        }
+        due("8: all ten", y.count(7), 1000 + 45);
     }
 
     private static void p9HowMany() {
