@@ -1017,7 +1017,8 @@ public final class TrialConverter {
         }
 
         private boolean readSemicolon() {
-            if (!isAt(';')) {
+            skipSpaces();
+            if (byteAt(at) != ';') {
                 return fail(SYNTAX_ERROR, at);
             }
             at++;
